@@ -391,6 +391,13 @@ public final class PromisesTest {
         due.is("7: burnt in the first of those", x.told(1, 3), 105);
         due.is("7: burnt one browns no more", x.told(0, 3), 104);
 
+        DoughRoom slow = risen(0, 1);
+        slow.heat(0, 50);
+        slow.bake(0, 0);
+        due.is("7: a hundred minutes at 50", slow.minutes(100), 0);
+        due.is("7: one more burns it", slow.minutes(1), 1);
+        due.is("7: 101 is above 100", slow.told(0, 3), 101);
+
         int[] brown = {4, 4, 4, 4, 2, 5, 5};
         for (int kind = 0; kind < 7; kind++) {
             DoughRoom y = risen(kind, 1);
